@@ -37,6 +37,11 @@ public final class Barrehouse {
     private static final int MOST_MINUTES = MINUTES_OF_HARDNESS * GREATEST_HARDNESS;
     private static final int COUNTS_OF_A_MINUTE = 4;
 
+    private static final int COST_OF_A_PAIR = 20;
+    private static final int COST_OF_HARDNESS = 2;
+    private static final int COST_OF_A_DANCER = 50;
+    private static final int COST_OF_A_RANK = 50;
+
     private static final char LEFT = 'l';
     private static final char RIGHT = 'r';
     private static final char BOTH = 'b';
@@ -243,8 +248,8 @@ public final class Barrehouse {
             throw new UnsupportedOperationException("an evening of the work was told");
         }
         requireRoom(told.roles.size(), MOST_ROLES_OF_A_WORK);
-        Role made = new Role(roles.size(), told, danced, weight);
-        made.ask(rank, low, high);
+        Role made = new Role(roles.size(), told, told.roles.size(), danced);
+        made.ask(rank, low, high, weight);
         told.roles.add(made);
         roles.add(made);
         return made.number;
@@ -412,7 +417,7 @@ public final class Barrehouse {
         requireRange(days, 0, MOST_DAYS);
         told.shoes.orders.add(new Order(pairs, hardness, today + days));
         told.shoes.receive(today);
-        bills += pairs * (20 + 2 * hardness);
+        bills += pairs * (COST_OF_A_PAIR + COST_OF_HARDNESS * hardness);
         return told.shoes.allPairs();
     }
 
@@ -436,8 +441,8 @@ public final class Barrehouse {
         }
         for (int number = 0; number < evenings.size(); number++) {
             Evening evening = evenings.get(number);
-            for (int place = 0; place < evening.dancers.length; place++) {
-                sum = 31 * sum + numberOf(evening.dancers[place]);
+            for (int place = 0; place < evening.work.roles.size(); place++) {
+                sum = 31 * sum + numberOf(evening.dancerOf(evening.work.roles.get(place)));
             }
         }
         return 31 * sum + bills;
@@ -448,7 +453,7 @@ public final class Barrehouse {
         int all = 0;
         for (int number = 0; number < evenings.size(); number++) {
             cast += evenings.get(number).castRoles();
-            all += evenings.get(number).dancers.length;
+            all += evenings.get(number).work.roles.size();
         }
         if (all == 0) {
             throw new NoSuchElementException("there are no evenings");
@@ -640,7 +645,7 @@ public final class Barrehouse {
 
     private boolean isHurtByDancing(Dancer dancer, Role role) {
         dancer.shoes.wear(role.minutesOfShoes());
-        bills += 50 + 50 * dancer.rank;
+        bills += COST_OF_A_DANCER + COST_OF_A_RANK * dancer.rank;
         dancer.load += role.weight;
         int above = dancer.load - dancer.stamina;
         if (above <= 0) {
@@ -1006,24 +1011,24 @@ public final class Barrehouse {
         final Work work;
         final int place;
         final Phrase phrase;
-        final int weight;
         int rank = 0;
         int low = LEAST_HEIGHT;
         int high = GREATEST_HEIGHT;
+        int weight = 0;
         Role partner = null;
 
-        Role(int number, Work work, Phrase phrase, int weight) {
+        Role(int number, Work work, int place, Phrase phrase) {
             this.number = number;
             this.work = work;
-            this.place = work.roles.size();
+            this.place = place;
             this.phrase = phrase;
-            this.weight = weight;
         }
 
-        void ask(int rank, int low, int high) {
+        void ask(int rank, int low, int high, int weight) {
             this.rank = rank;
             this.low = low;
             this.high = high;
+            this.weight = weight;
         }
 
         boolean suitsRank(Dancer dancer) {
@@ -1047,15 +1052,13 @@ public final class Barrehouse {
         final Work work;
         final int day;
         final int tempo;
-        final Dancer[] dancers;
+        final Dancer[] dancers = new Dancer[MOST_ROLES_OF_A_WORK];
         boolean isDanced = false;
 
-        /** The work gets no more roles behind its first evening, so that the row stays long enough. */
         Evening(Work work, int day, int tempo) {
             this.work = work;
             this.day = day;
             this.tempo = tempo;
-            this.dancers = new Dancer[work.roles.size()];
         }
 
         Dancer dancerOf(Role role) {
@@ -1078,9 +1081,8 @@ public final class Barrehouse {
         }
 
         boolean hasHeavyRole(Dancer dancer) {
-            for (int place = 0; place < work.roles.size(); place++) {
-                Role role = work.roles.get(place);
-                if (role.isHeavy() && dancerOf(role) == dancer) {
+            for (int place = 0; place < work.roles.size() && place < dancers.length; place++) {
+                if (dancers[place] == dancer && work.roles.get(place).isHeavy()) {
                     return true;
                 }
             }
