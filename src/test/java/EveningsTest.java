@@ -451,6 +451,16 @@ public final class EveningsTest {
         x.rehearse(11, 10, 5);
         x.rehearse(11, 9, 5);
         check.same(2 * 4 * 2, x.casts(0));
+        Barrehouse y = house(5, 0, 0, 0);
+        y.work();
+        y.role(1, 0, 0, 150, 200, 0);
+        y.evening(0, 0, 100);
+        y.evening(1, 0, 100);
+        check.same(5 * 4 * 3, y.casts(0));
+        check.same(5, y.casts(1));
+        y.hurt(3, 1);
+        check.same(4 * 3 * 2, y.casts(0));
+        check.same(4, y.casts(1));
     }
 
     /** The own evening's castings do not count, those of other evenings do. */

@@ -23,7 +23,7 @@ public final class RobustTest {
             for (int calls = 0; calls < 6000; calls++) {
                 Method method = methods.get(random.nextInt(methods.size()));
                 Throwable thrown = thrownBy(x, method, random);
-                if (thrown != null && !Arrays.asList(method.getExceptionTypes()).contains(thrown.getClass())) {
+                if (thrown != null && !isDue(method, thrown)) {
                     wrong++;
                     System.out.println("run " + run + ", call " + calls + ": " + method.getName() + " threw " + thrown);
                 }
@@ -37,6 +37,13 @@ public final class RobustTest {
         if (wrong != 0) {
             System.exit(1);
         }
+    }
+
+    /** It is one that the promise lists, and the class throws it itself: the machine's bear another place. */
+    private static boolean isDue(Method method, Throwable thrown) {
+        StackTraceElement[] trace = thrown.getStackTrace();
+        boolean isOwn = trace.length > 0 && trace[0].getClassName().equals("Barrehouse");
+        return isOwn && Arrays.asList(method.getExceptionTypes()).contains(thrown.getClass());
     }
 
     private static Throwable thrownBy(Barrehouse x, Method method, Random random) throws IllegalAccessException {

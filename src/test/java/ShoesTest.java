@@ -7,6 +7,7 @@ public final class ShoesTest {
         shoesWornOut();
         minutes();
         leastLeftFirst();
+        lastMinute();
         minutesOfCounts();
         bill();
         checksum();
@@ -120,6 +121,20 @@ public final class ShoesTest {
         int evening = x.evening(0, 0, 100);
         x.cast(evening, 0, 0);
         check.fails(Check.UNFIT, () -> x.dance(evening));
+    }
+
+    private static void lastMinute() {
+        check.promise(33);
+        Barrehouse x = house(36);
+        x.shoes(0, 1, 1, 0);
+        danceOn(x, 0);
+        check.same(1, x.minutes(0));
+        check.same(2, x.shoes(0, 1, 1, 0));
+        x.take(0);
+        // 32 counts want 8 minutes: one of the pair with 1 left, 7 of the other one.
+        danceOn(x, 0);
+        check.same(3, x.minutes(0));
+        check.same(2, x.shoes(0, 1, 1, 0));
     }
 
     private static void minutesOfCounts() {

@@ -415,5 +415,27 @@ public final class StepsTest {
         check.same(0, x.bridge(4, 2));
         check.same(1, x.bridge(1, 4));
         check.same(0, x.bridge(0, 4));
+        bridgeOfOneStep();
+    }
+
+    private static void bridgeOfOneStep() {
+        Barrehouse x = new Barrehouse();
+        x.step('b', 'l', 1, 0, 0);
+        x.phrase();
+        check.fails(Check.UNFIT, () -> x.bridge(0, 0));
+        x.add(0, 0, false);
+        x.mirror(0);
+        check.fails(Check.NONE, () -> x.bridge(0, 0));
+        x.step('r', 'b', 1, 0, 0);
+        check.same(1, x.bridge(0, 0));
+        check.same(1, x.bridge(0, 1));
+        x.phrase();
+        x.add(2, 1, false);
+        check.same('b', x.weight(2, true));
+        check.same('r', x.weight(2, false));
+        // By the step 0 alone, mirrored.
+        check.same(1, x.bridge(2, 2));
+        check.same(2, x.bridge(0, 2));
+        check.same(0, x.bridge(1, 2));
     }
 }
