@@ -381,7 +381,7 @@ public final class Barrehouse {
         for (int place = 0; place < told.work.roles.size(); place++) {
             Role role = told.work.roles.get(place);
             Dancer dancer = told.dancerOf(role);
-            if (dancer != null && isHurtByDancing(dancer, role)) {
+            if (dancer != null && letDance(dancer, role)) {
                 hurtDancers++;
             }
         }
@@ -643,7 +643,8 @@ public final class Barrehouse {
         return true;
     }
 
-    private boolean isHurtByDancing(Dancer dancer, Role role) {
+    /** Lets a dancer dance a role, and tells whether that hurts. */
+    private boolean letDance(Dancer dancer, Role role) {
         dancer.shoes.wear(role.minutesOfShoes());
         bills += COST_OF_A_DANCER + COST_OF_A_RANK * dancer.rank;
         dancer.load += role.weight;
