@@ -1202,8 +1202,8 @@ public final class Barrehouse {
                 return BARRED;
             }
             int partner = partners[place];
-            boolean isPartnerChosen = partner >= 0 && partner < place;
-            return isPartnerChosen ? needed + pairHours[chosen[partner]][dancer] : needed;
+            int other = partner >= 0 && partner < place ? chosen[partner] : BARRED;
+            return isNumber(other, dancers) ? needed + pairHours[other][dancer] : needed;
         }
 
         private static int wholeCastsFrom(CastSearch search, int place, int used) {

@@ -63,6 +63,14 @@ public final class EdgesOfCastsTest {
                 + "casts(0) = 1; dancer(0, 180, 50); casts(0) = 2");
         edges.tell(30, "neither a tempo nor shoes are asked", two, "add(0, 0, false); tempi(0, 150, 160);"
                 + "learn(0, 0, 2); learn(1, 1, 2); casts(0) = 1");
+        String between = "phrase(); work(); work(); role(1, 0, 0, 150, 200, 0); role(0, 0, 0, 150, 200, 0);"
+                + "role(1, 0, 0, 150, 200, 0); role(0, 0, 0, 150, 200, 0); role(0, 0, 0, 150, 200, 0);"
+                + "3 * dancer(0, 170, 50); evening(0, 0, 100); rehearse(1, 2, 5);";
+        edges.tell(30, "a pair of roles with those of other works between", between, "partner(1, 4); casts(0) = 2;"
+                + "evening(1, 0, 100); casts(1) = 6; partner(0, 2); casts(1) = 2");
+        edges.tell(31, "a pair of roles with those of other works between", between, "partner(4, 3); least(0) = 0;"
+                + "leastFor(0, 1) = 0; leastFor(0, 3) = 1; leastFor(0, 4) = 2; hurt(2, 1); dancer(0, 170, 50);"
+                + "least(0) = 5");
         edges.tell(30, "a pair whose second role is the lower one", house(3, 0, 0, 0), "partner(2, 0);"
                 + "evening(0, 0, 100); casts(0) = 0; rehearse(1, 2, 5); casts(0) = 2");
     }

@@ -115,6 +115,9 @@ public final class EdgesOfDancersTest {
                 + "bars(6, 0, 0) = i; hurt(0, 1) = 11");
         edges.tell(16, "danced anew with a shorter hurt behind a longer one", SOLO, danceAlone(0, 0, 0),
                 danceAlone(1, 0, 0), danceAlone(2, 0, 1), "hurt(0, 20) = 20; days(1); hurt(0, 1) = 20");
+        edges.tell(16, "by dancing behind a long hurt that is over", SOLO, "hurt(0, 9) = 9; days(9);",
+                danceAlone(0, 9, 0), danceAlone(1, 9, 0), danceAlone(2, 9, 1), "evening(0, 9, 100);"
+                + "bars(3, 0, 0) = -; evening(0, 10, 100); bars(4, 0, 0) = i; evening(0, 15, 100); bars(5, 0, 0) = -");
         edges.tell(16, "by dancing behind a hurt that is over", SOLO, "hurt(0, 1) = 1; days(1);", danceAlone(0, 1, 0),
                 danceAlone(1, 1, 0), danceAlone(2, 1, 1), "evening(0, 1, 100); bars(3, 0, 0) = -;"
                 + "evening(0, 2, 100); bars(4, 0, 0) = i; hurt(0, 1) = 7; bars(3, 0, 0) = i");
@@ -128,6 +131,8 @@ public final class EdgesOfDancersTest {
                 danceAlone(0, 0, 0), "load(0) = 9");
         edges.tell(17, "5 less with a day", SOLO, danceAlone(0, 0, 0), danceAlone(1, 0, 0), "load(0) = 10; days(1);"
                 + "load(0) = 5; days(1); load(0) = 0; days(1); load(0) = 0");
+        edges.tell(17, "5 less with a day, long behind the first one", SOLO, "days(9);", danceAlone(0, 9, 0),
+                danceAlone(1, 9, 0), "load(0) = 10; days(1) = 10; load(0) = 5; days(1); load(0) = 0");
         edges.tell(17, "5 less with each of two days", SOLO, Edges.times(3, "evening(0, 0, 100); cast(%, 0, 0);"
                 + "dance(%)"), "load(0) = 15; days(2); load(0) = 5");
         edges.tell(17, "at least 0", "phrase(); work(); role(0, 0, 0, 150, 200, 4); dancer(0, 170, 50);",

@@ -390,6 +390,11 @@ public final class EdgesOfStepsTest {
                 + Edges.NONE, "step('l', 'r', 1, 0, 0) = 15; bridge(0, 1) = 1");
         edges.tell(13, "from the end of a phrase to the beginning of the same", "step('l', 'b', 1, 0, 0); phrase();"
                 + "add(0, 0, false); bridge(0, 0)" + Edges.NONE, "step('b', 'r', 1, 0, 0); bridge(0, 0) = 1");
+        edges.tell(13, "by the first step, mirrored", "step('l', 'r', 1, 0, 0); phrase(); add(0, 0, false);"
+                + "bridge(0, 0) = 1");
+        edges.tell(13, "by the first step as the last item", "step('b', 'l', 1, 0, 0); step('r', 'b', 1, 0, 0);"
+                + "phrase(); add(0, 1, true); add(0, 0, false); phrase(); add(1, 1, false); bridge(0, 0) = 0;"
+                + "bridge(0, 1) = 2; bridge(1, 0) = 1");
         edges.tell(13, "a new object has no phrases", "bridge(0, 0)" + Edges.INDEX);
     }
 
