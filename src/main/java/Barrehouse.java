@@ -1132,6 +1132,8 @@ public final class Barrehouse {
      */
     private static final class CastSearch {
         static final int BARRED = -1;
+        // A cast needs 106 hours at most: 24 for each of four roles, and 5 for each of two pairs.
+        static final int MORE_THAN_ANY = 1000000;
 
         final int[][] hours = new int[MOST_ROLES_OF_A_WORK][MOST_DANCERS];
         final int[][] pairHours = new int[MOST_DANCERS][MOST_DANCERS];
@@ -1179,20 +1181,20 @@ public final class Barrehouse {
             for (int place = places - 1; place >= 0; place--) {
                 restHours[place] = restHours[place + 1] + fewestHours(place);
             }
-            leastHours = Integer.MAX_VALUE;
+            leastHours = MORE_THAN_ANY;
             seekLeastFrom(this, 0, 0, 0);
-            return leastHours < Integer.MAX_VALUE;
+            return leastHours < MORE_THAN_ANY;
         }
 
         private int fewestHours(int place) {
-            int fewest = Integer.MAX_VALUE;
+            int fewest = MORE_THAN_ANY;
             for (int dancer = 0; dancer < dancers; dancer++) {
                 int needed = hours[place][dancer];
                 if (needed != BARRED) {
                     fewest = Math.min(fewest, needed);
                 }
             }
-            return fewest == Integer.MAX_VALUE ? 0 : fewest;
+            return fewest == MORE_THAN_ANY ? 0 : fewest;
         }
 
         /** The hours that are missing for a dancer beside those chosen for the places ahead, or BARRED. */
